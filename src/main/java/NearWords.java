@@ -25,7 +25,7 @@ public final class NearWords {
   private static final int DEAREST = 9;
   private static final int FURTHEST = 63;
   private static final int NO_COVER = -2;
-  private static final int NOT_REACHED = Integer.MAX_VALUE;
+  private static final int NOT_REACHED = 0x7fffffff;
 
   private final Rules rules = new Rules();
   private final Tape tape = new Tape();
