@@ -474,6 +474,19 @@ public final class PromiseTest {
     x.part(0, 0);
     due("20: no near word", x.core(1), NONE);
     due("21: no near word", x.coreSet(1), NONE);
+    x = new NearWords();
+    x.letters(2);
+    for (String s : new String[] {"aaa", "aab", "aba", "abb", "baa", "bab", "bba", "bbb"}) {
+      Checks.word(x, s);
+    }
+    due("20: each row is barred by one word alone", x.core(2), 8);
+    due("21: each row is barred by one word alone", x.coreSet(2), 255);
+    due("22: each row is barred by one word alone", x.cover(2), 2);
+    due("20: nearer", x.core(1), 2);
+    due("21: nearer, the least as bits", x.coreSet(1), 24);
+    x = Checks.withWords("a");
+    x.part(0, 0);
+    due("21: no near word", x.coreSet(1), NONE);
   }
 
   private static void cover() {
@@ -507,6 +520,20 @@ public final class PromiseTest {
       x.part(w, 0);
     }
     due("22: no near word", x.cover(63), NONE);
+    due("23: no near word", x.centres(8), NONE);
+    x = new NearWords();
+    x.letters(2);
+    Checks.word(x, "aaaaaaa");
+    Checks.word(x, "aaaaaaa");
+    x.cost(0, 1, 9);
+    x.part(1, 2);
+    x.gap(63);
+    due("14: as far as can be at all", x.centre(), 63);
+    due("15: as far as can be at all", Checks.centreOf(x), "bbbbbbb");
+    due("22: as far as can be at all", x.cover(63), 1);
+    due("22: no nearer", x.cover(62), -2);
+    due("23: as far as can be at all", x.centres(1), 63);
+    x.part(0, 0);
     due("23: no near word", x.centres(8), NONE);
   }
 
