@@ -590,10 +590,12 @@ public final class NearWords {
     /** Reckons with the row's letter at a place, all letters ahead of it being reckoned with. */
     void put(int place) {
       int letter = row[place];
-      int here = place * width;
       int price = letter * MOST_LETTERS;
-      for (int t = 0; t < targets; t++) {
-        sums[here + width + t] = sums[here + t] + rules.prices[price + aims[here + t]];
+      int[] prices = rules.prices;
+      int here = place * width;
+      int behind = here + targets;
+      for (int at = here; at < behind; at++) {
+        sums[at + width] = sums[at] + prices[price + aims[at]];
       }
       packed[place + 1] = packed[place] << LETTER_BITS | letter;
       spots[place + 1] = spots[place] | 1 << MOST_LETTERS * place + letter;
@@ -1006,12 +1008,16 @@ public final class NearWords {
       int next = now + PAGE;
       int start = words.start(word);
       int price = letter * MOST_LETTERS;
-      int left = lines[now] + rules.drop;
+      int[] prices = rules.prices;
+      int[] rows = words.rows;
+      int drop = rules.drop;
+      int slant = lines[now];
+      int left = slant + drop;
       lines[next] = left;
       for (int j = 0; j < words.length; j++) {
-        int changed = lines[now + j] + rules.prices[price + words.rows[start + j]];
-        int above = lines[now + j + 1];
-        left = (above < left ? above : left) + rules.drop;
+        int changed = slant + prices[price + rows[start + j]];
+        slant = lines[now + j + 1];
+        left = (slant < left ? slant : left) + drop;
         if (changed < left) {
           left = changed;
         }
@@ -1103,10 +1109,11 @@ public final class NearWords {
     /** EDITS to a WORD at the least: behind p letters, so many more of the row make up for so many of the WORD. */
     private int leastEnd(int p, int word, int more) {
       int line = p * PAGE + word * LINE;
+      int drop = rules.drop;
       int least = NOT_REACHED;
       for (int j = 0; j <= words.length; j++) {
         int unlike = words.length - j - more;
-        int end = lines[line + j] + (unlike < 0 ? -unlike : unlike) * rules.drop;
+        int end = lines[line + j] + (unlike < 0 ? -unlike : unlike) * drop;
         if (end < least) {
           least = end;
         }
