@@ -1,5 +1,10 @@
+import java.util.stream.IntStream;
+
 /** What the tests share: counting wrong answers, and putting texts on the TAPE. */
 final class Checks {
+  private static final int LOW = Integer.MIN_VALUE;
+  private static final int HIGH = Integer.MAX_VALUE;
+
   private int wrong = 0;
   private int checked = 0;
 
@@ -21,6 +26,48 @@ final class Checks {
       wrong++;
       System.out.println(what + " answered " + got + ", due is " + want);
     }
+  }
+
+  /** Without words of its own: the line that asks tells what is asked. */
+  void due(long got, long want) {
+    due(got == want ? "" : line(), got, want);
+  }
+
+  void due(String got, String want) {
+    due(got.equals(want) ? "" : line(), got, want);
+  }
+
+  void none(int got) {
+    due(got, NearWords.NONE);
+  }
+
+  void yes(boolean got) {
+    due(got ? 1 : 0, 1);
+  }
+
+  void no(boolean got) {
+    due(got ? 1 : 0, 0);
+  }
+
+  boolean areAsDue() {
+    return wrong == 0 && checked > 0;
+  }
+
+  private static String line() {
+    return StackWalker.getInstance().walk(frames -> frames
+        .filter(f -> !f.getClassName().equals("Checks"))
+        .findFirst()
+        .map(f -> f.getFileName() + ":" + f.getLineNumber())
+        .orElse("?"));
+  }
+
+  /** Numbers below and above a range, those among them that wrap around into it in one byte or two. */
+  static int[] outside(int least, int most) {
+    return IntStream.of(LOW, LOW + 1, LOW + least, LOW + most, -65536 + least, -256 + least, -most, least - 1, most + 1,
+        least + 256, most + 256, least + 65536, most + 65536, 1 << 24, HIGH - 1, HIGH)
+        .filter(n -> n < least || n > most)
+        .distinct()
+        .toArray();
   }
 
   void finish() {
@@ -75,6 +122,29 @@ final class Checks {
       text(x, t);
     }
     return x;
+  }
+
+  /** All that count and of tell, but for the TAPE. */
+  static String stateOf(NearWords x) {
+    StringBuilder s = new StringBuilder();
+    for (int what = 0; what < 15; what++) {
+      s.append(what == 8 ? "" : x.count(what) + " ");
+    }
+    for (int w = 0; w < x.count(0); w++) {
+      s.append('/');
+      for (int what = 0; what <= x.count(5); what++) {
+        s.append(x.of(w, what));
+      }
+    }
+    return s.toString();
+  }
+
+  static void costAll(NearWords x, int v) {
+    for (int a = 0; a < 4; a++) {
+      for (int b = 0; b < a; b++) {
+        x.cost(a, b, v);
+      }
+    }
   }
 
   static String centreOf(NearWords x) {
