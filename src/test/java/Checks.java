@@ -63,8 +63,8 @@ final class Checks {
 
   /** Numbers below and above a range, those among them that wrap around into it in one byte or two. */
   static int[] outside(int least, int most) {
-    return IntStream.of(LOW, LOW + 1, LOW + least, LOW + most, -65536 + least, -256 + least, -most, least - 1, most + 1,
-        least + 256, most + 256, least + 65536, most + 65536, 1 << 24, HIGH - 1, HIGH)
+    return IntStream.of(LOW, LOW + 1, LOW + least, LOW + most, -65536 + least, -256 + least, -most, least - 2, least - 1,
+        most + 1, most + 2, most + 3, least + 256, most + 256, least + 65536, most + 65536, 1 << 24, HIGH - 1, HIGH)
         .filter(n -> n < least || n > most)
         .distinct()
         .toArray();

@@ -13,7 +13,8 @@ import java.util.List;
 public final class EdgeTest {
   private static final Class<?>[] EDGES = {
     TermEdges.class, RuleEdges.class, TapeEdges.class, DistanceEdges.class, CandidateEdges.class, WithoutEdges.class,
-    SetEdges.class, MiddleEdges.class, MotifEdges.class, StateEdges.class, RefusalEdges.class
+    SetEdges.class, MiddleEdges.class, MotifEdges.class, StateEdges.class, RefusalEdges.class, ChangeEdges.class,
+    FullEdges.class
   };
 
   public static void main(String[] args) throws Exception {

@@ -68,6 +68,24 @@ final class MiddleEdges {
     c.due(x.middle(), 0);
   }
 
+  @Edge(promise = 26, says = "The least sum of EDITS: THE MIDDLE's.")
+  static void theMiddleNeedBeNoWord(Checks c) {
+    NearWords x = Checks.withWords("a", "b");
+    x.cost(0, 1, 9);
+    x.drop(9);
+    c.due(x.middle(), 2);
+    c.due(Checks.middleOf(x), "c");
+    x = Checks.withWords("ccc", "aba");
+    x.drop(6);
+    x.cost(0, 2, 5);
+    x.cost(1, 2, 3);
+    x.cost(1, 3, 5);
+    x.cost(2, 3, 2);
+    // Between c and a the d is cheapest (3), between c and b these two are (3).
+    c.due(x.middle(), 9);
+    c.due(Checks.middleOf(x), "dbd");
+  }
+
   @Edge(promise = 26, says = "NONE: there is no NEAR WORD.")
   static void noNearWordNoMiddle(Checks c) {
     for (NearWords x : withoutNearWords()) {

@@ -174,6 +174,21 @@ final class MotifEdges {
     }
   }
 
+  @Edge(promise = 34, says = "Where its nearest PIECE of a TEXT begins.")
+  static void aPieceLiesWithinItsText(Checks c) {
+    // Behind the b of the second text there is nothing that THE MOTIF a could be nearer to.
+    NearWords x = Checks.withTexts("a", "b", "a");
+    c.due(Checks.motifOf(x, 1), "a");
+    c.due(x.motif(1), 1);
+    c.due(x.motifIn(1, 1), 0);
+    x = Checks.withTexts("ba", "ab", "bb");
+    c.due(x.motif(2), 1);
+    c.due(Checks.motifOf(x, 2), "bb");
+    for (int t = 0; t < 3; t++) {
+      c.due(x.motifIn(2, t), 0);
+    }
+  }
+
   @Edge(promise = 34, says = "NoSuchElementException: no such TEXT")
   static void noPieceOfATextThatIsNotThere(Checks c) {
     NearWords x = new NearWords();

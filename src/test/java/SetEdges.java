@@ -88,6 +88,31 @@ final class SetEdges {
     c.due(nearAndFar(3).core(63), 1);
   }
 
+  @Edge(promise = 20, says = "all NEAR WORDS are HELD")
+  static void aCandidateHoldsAlsoWhatIsNotNearestToIt(Checks c) {
+    // The only CANDIDATE is b: it holds the NEAR WORD a, too, though another WORD, the first or the last, is nearer.
+    for (int b = 0; b < 8; b++) {
+      NearWords x = new NearWords();
+      x.letters(2);
+      for (int w = 0; w < 8; w++) {
+        Checks.word(x, w == b ? "b" : "a");
+      }
+      int far = (b + 1) % 8;
+      x.part(far, 2);
+      x.gap(1);
+      int first = 0;
+      while (first == b || first == far) {
+        first++;
+      }
+      c.due(x.core(0), 1);
+      c.due(x.coreSet(0), 1 << first);
+      c.due(x.core(1), 0);
+      c.due(x.cover(0), -2);
+      c.due(x.cover(1), 1);
+      c.due(x.without(0), 1);
+    }
+  }
+
   @Edge(promise = 20, says = "NONE likewise.")
   static void noCoreWithinAnotherR(Checks c) {
     NearWords x = Checks.withWords("aa", "bb");

@@ -185,6 +185,58 @@ final class TermEdges {
     c.due(x.within(63), 0);
   }
 
+  @Edge(promise = Edge.TERMS, says = "DISTANCE of two rows of LETTERS of one length")
+  static void candidatesHaveTheSameDistancesAsTheTape(Checks c) {
+    NearWords x = new NearWords();
+    x.letters(3);
+    x.cost(0, 1, 4);
+    x.cost(0, 2, 3);
+    x.cost(1, 2, 5);
+    x.swap(1);
+    Checks.word(x, "abc");
+    Checks.word(x, "bab");
+    Checks.word(x, "cab");
+    x.part(2, 2);
+    x.gap(2);
+    int[] counts = new int[64];
+    int[] letters = new int[64];
+    for (int row = 0; row < 27; row++) {
+      String s = "" + (char) ('a' + row / 9) + (char) ('a' + row / 3 % 3) + (char) ('a' + row % 3);
+      int[] from = new int[3];
+      for (int w = 0; w < 3; w++) {
+        Checks.tape(x, s);
+        from[w] = x.from(w);
+      }
+      for (int r = Math.max(from[0], from[1]); r < 64 && from[2] >= 2; r++) {
+        counts[r]++;
+        letters[r] |= 1 << row % 3;
+      }
+    }
+    for (int r = 0; r < 20; r++) {
+      c.due(x.within(r), counts[r]);
+      c.due(x.lettersAt(r, 2), letters[r]);
+    }
+  }
+
+  @Edge(promise = Edge.TERMS, says = "if there is a SWAP, the LETTERS at two places next to one another")
+  static void swapsAtEitherEndCountForCandidates(Checks c) {
+    for (int swap = 1; swap <= 9; swap += 4) {
+      for (String[] two : new String[][] {{"aaaaaab", "aaaaaba"}, {"abbbbbb", "babbbbb"}, {"ab", "ba"}}) {
+        NearWords x = new NearWords();
+        x.letters(2);
+        Checks.word(x, two[1]);
+        Checks.word(x, two[0]);
+        x.cost(0, 1, 9);
+        x.swap(swap);
+        c.due(x.centre(), swap);
+        c.due(x.median(), swap);
+        c.due(Checks.medianOf(x), two[0]);
+        c.due(x.centres(1), swap);
+        c.due(x.without(0), swap);
+      }
+    }
+  }
+
   @Edge(promise = Edge.TERMS, says = "any row of LENGTH LETTERS")
   static void rowsHaveTheLettersThatCount(Checks c) {
     for (int n = 2; n <= 4; n++) {
@@ -442,6 +494,36 @@ final class TermEdges {
     c.due(x.motif(2), 2);
     c.due(Checks.motifOf(x, 2), "ab");
     c.due(x.motifIn(2, 1), 2);
+    for (int swap = 1; swap <= 9; swap++) {
+      // Each letter of ab is wrong in ba until the two are swapped.
+      x = Checks.withTexts("ba", "ab");
+      Checks.costAll(x, 9);
+      x.swap(swap);
+      c.due(x.motif(2), swap);
+      c.due(Checks.motifOf(x, 2), swap == 9 ? "aa" : "ab");
+      x = Checks.withTexts("cba", "cab");
+      Checks.costAll(x, 9);
+      x.swap(swap);
+      c.due(x.motif(3), swap);
+      c.due(Checks.motifOf(x, 3), swap == 9 ? "caa" : "cab");
+    }
+  }
+
+  @Edge(promise = Edge.TERMS, says = "the one whose greatest DISTANCE to its nearest PIECES is least")
+  static void aMotifThatOnlyASwapMakesGood(Checks c) {
+    for (int swap = 1; swap <= 7; swap++) {
+      for (String ahead : new String[] {"", "d", "dd", "dddd"}) {
+        NearWords x = Checks.withTexts(ahead + "cb", ahead + "bc");
+        Checks.costAll(x, 9);
+        x.cost(0, 1, 4);
+        x.cost(0, 2, 4);
+        x.swap(swap);
+        // aa is 8 away from both; the b of bc alone is worse, until it is swapped with the c.
+        c.due(x.motif(ahead.length() + 2), swap);
+        c.due(Checks.motifOf(x, ahead.length() + 2), ahead + "bc");
+        c.due(x.motifIn(ahead.length() + 2, 1), 0);
+      }
+    }
   }
 
   @Edge(promise = Edge.TERMS, says = "the one whose greatest DISTANCE to its nearest PIECES is least, of several the first.")
