@@ -161,10 +161,16 @@ final class RefusalEdges {
     c.none(Checks.text(x, "a".repeat(25)));
     c.none(x.text());
     c.due(answers(x), before);
+  }
+
+  @Edge(promise = 10, says = "five are there")
+  static void theSixthTextChangesNothing(Checks c) {
+    NearWords x = wellFilled();
+    x.end(0);
     for (int t = 2; t < 5; t++) {
       Checks.text(x, "bbbbb");
     }
-    before = answers(x);
+    String before = answers(x);
     c.none(Checks.text(x, "a"));
     c.due(answers(x), before);
   }

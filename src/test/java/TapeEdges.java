@@ -285,13 +285,13 @@ final class TapeEdges {
   static void anotherLengthThanTheFirstWordsIsNone(Checks c) {
     for (int length = 1; length <= 7; length++) {
       NearWords x = Checks.withWords("a".repeat(length));
+      String before = Checks.stateOf(x);
       for (int other = 0; other <= 9; other++) {
-        String before = Checks.stateOf(x);
         if (other != length) {
           c.none(Checks.word(x, "b".repeat(other)));
-          c.due(Checks.stateOf(x), before);
         }
       }
+      c.due(Checks.stateOf(x), before);
       c.due(Checks.word(x, "b".repeat(length)), 1);
     }
   }
@@ -506,11 +506,10 @@ final class TapeEdges {
     c.no(x.part(-1, 0));
     for (int size = 1; size <= 8; size++) {
       Checks.word(x, "ab");
-      String before = Checks.stateOf(x);
       for (int bad : Checks.outside(0, size - 1)) {
         c.no(x.part(bad, 0));
       }
-      c.due(Checks.stateOf(x), before);
+      c.due(x.count(1), size);
     }
   }
 
