@@ -86,6 +86,17 @@ final class MiddleEdges {
     c.due(Checks.middleOf(x), "dbd");
   }
 
+  @Edge(promise = 26, says = "The least sum of EDITS: THE MIDDLE's.")
+  static void wordsThatHaveNoLetterInCommon(Checks c) {
+    // All of one WORD goes and all of the other comes, wherever between them THE MIDDLE is.
+    NearWords x = comingAndGoing("ab", "dd");
+    c.due(x.middle(), 4);
+    c.due(Checks.middleOf(x), "a");
+    x = comingAndGoing("abababa", "ddddddd");
+    c.due(x.middle(), 14);
+    c.due(Checks.middleOf(x), "a");
+  }
+
   @Edge(promise = 26, says = "NONE: there is no NEAR WORD.")
   static void noNearWordNoMiddle(Checks c) {
     for (NearWords x : withoutNearWords()) {

@@ -510,6 +510,15 @@ final class TermEdges {
   }
 
   @Edge(promise = Edge.TERMS, says = "the one whose greatest DISTANCE to its nearest PIECES is least")
+  static void aMotifThatADearSwapDoesNotBar(Checks c) {
+    NearWords x = Checks.withTexts("bb", "ba");
+    x.swap(9);
+    // aa, the first row of all, is 2 away from bb.
+    c.due(x.motif(2), 1);
+    c.due(Checks.motifOf(x, 2), "ba");
+  }
+
+  @Edge(promise = Edge.TERMS, says = "the one whose greatest DISTANCE to its nearest PIECES is least")
   static void aMotifThatOnlyASwapMakesGood(Checks c) {
     for (int swap = 1; swap <= 7; swap++) {
       for (String ahead : new String[] {"", "d", "dd", "dddd"}) {
