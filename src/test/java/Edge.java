@@ -7,7 +7,8 @@ import java.lang.annotation.Target;
 @Retention(RetentionPolicy.RUNTIME)
 @Target(ElementType.METHOD)
 @interface Edge {
-  /** The section 'Terms', which has no number in the document. */
+  /** The sections 'What it is' and 'Terms', which have no number in the document. */
+  int ABOUT = -1;
   int TERMS = 0;
 
   int promise();

@@ -7,14 +7,14 @@ import java.util.Comparator;
 import java.util.List;
 
 /**
- * Runs each boundary case's own test, and looks whether the tests together quote every word of the document's promises
- * and terms. The document is told by -Ddocument; without it the quotes are not compared.
+ * Runs each boundary case's own test, and looks whether the tests together quote every word of the document's promises,
+ * of its terms and of what the class is. The document is told by -Ddocument; without it the quotes are not compared.
  */
 public final class EdgeTest {
   private static final Class<?>[] EDGES = {
-    TermEdges.class, RuleEdges.class, TapeEdges.class, DistanceEdges.class, CandidateEdges.class, WithoutEdges.class,
-    SetEdges.class, MiddleEdges.class, MotifEdges.class, StateEdges.class, RefusalEdges.class, ChangeEdges.class,
-    FullEdges.class
+    AboutEdges.class, TermEdges.class, RuleEdges.class, TapeEdges.class, DistanceEdges.class, CandidateEdges.class,
+    WithoutEdges.class, SetEdges.class, MiddleEdges.class, MotifEdges.class, StateEdges.class, RefusalEdges.class,
+    ChangeEdges.class, FullEdges.class
   };
 
   public static void main(String[] args) throws Exception {

@@ -1,7 +1,10 @@
+import java.io.IOException;
 import java.lang.reflect.Constructor;
 import java.lang.reflect.Field;
 import java.lang.reflect.Method;
 import java.lang.reflect.Modifier;
+import java.nio.file.Files;
+import java.nio.file.Path;
 import java.util.Arrays;
 import java.util.NoSuchElementException;
 import java.util.TreeSet;
@@ -57,7 +60,29 @@ public final class FaceTest {
         checks.due(inside + "." + name + " bears a name of the face", borrowed, false);
       }
     }
-    checks.due("classes inside", face.getDeclaredClasses().length <= 12, true);
+    lookAtTheDocument(checks);
     checks.finish();
+  }
+
+  /** The document's own lines of the face: each stands in the class, its parameters' names too. */
+  private static void lookAtTheDocument(Checks checks) throws IOException {
+    String document = System.getProperty("document", "");
+    if (document.isEmpty() || !Files.isReadable(Path.of(document))) {
+      System.out.println("no document: the face is compared with the list in this test alone");
+      return;
+    }
+    String source = Files.readString(Path.of("src/main/java/NearWords.java"));
+    String text = Files.readString(Path.of(document));
+    int lines = 0;
+    for (String line : text.substring(text.indexOf("```java"), text.indexOf("## Terms")).split("\n")) {
+      if (line.startsWith("    public ") && line.endsWith(";")) {
+        lines++;
+        String plain = "  " + line.trim();
+        String opened = plain.substring(0, plain.length() - 1) + " {\n";
+        checks.due("the face has" + plain, source.contains(plain + "\n") || source.contains(opened), true);
+      }
+    }
+    // The constant, the constructor and the methods.
+    checks.due("lines of the document's face", lines, METHODS.length + 2);
   }
 }

@@ -21,6 +21,8 @@ final class Quotes {
         // A promise begins with the method's signature, which FaceTest looks at.
         int number = Integer.parseInt(title.substring(8, title.indexOf(':')));
         keep(number, body.substring(body.indexOf("`: ") + 3));
+      } else if (title.equals("What it is")) {
+        keep(Edge.ABOUT, body.replace("==== 1.", " "));
       } else if (title.equals("Terms")) {
         keep(Edge.TERMS, body.replace("```text", " ").replace("```", " ").replace("==== 2.", " "));
       }
